@@ -559,6 +559,7 @@ public final class HandlingRules {
                 case USE_HANDLE:
                     push(factBehind(pop()));
                     break;
+                case END:
                 default:
                     position = rule.length;
                     break;

@@ -363,7 +363,8 @@ public final class HandlingRulesModelTest {
     private void call() {
         int way = random.nextInt(100);
         if (way < 9) {
-            int e = some(5), rank = random.nextBoolean() ? some(9) : some(1), name = random.nextBoolean() ? some(99) : some(1);
+            int e = some(5), rank = random.nextBoolean() ? some(9) : some(1);
+            int name = random.nextBoolean() ? some(99) : some(1);
             int told = m.rule(e, rank, name);
             due("rule(" + e + ", " + rank + ", " + name + ")", x.rule(e, rank, name), told);
             if (told >= 0 && random.nextInt(3) > 0) program(told);

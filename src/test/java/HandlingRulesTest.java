@@ -242,6 +242,12 @@ public final class HandlingRulesTest {
         due("in place of an earlier one", value("again", fresh(), PUT, 4, GIVE, 0, PUT, 5, GIVE, 0), 5);
         due("cell within a program", value("cell", fresh(), PUT, 4, ADD_CELL, 0, PUT, 5, ADD_CELL, 0, CELL, 0, GIVE, 0), 9);
         due("handle", value("handle", facts(), KEEP, 3, KEEP, 6, USE, 0, PUT, 0, USE, 0, SUB, 0, GIVE, 0, END, 0), 30);
+        due("give takes one alone", value("give", fresh(), PUT, 1, PUT, 2, PUT, 3, GIVE, 0, GIVE, 0), 2);
+        due("to the cell goes one alone", value("cell", fresh(), PUT, 1, PUT, 2, ADD_CELL, 0, PUT, 3, ADD, 0, GIVE, 0), 4);
+        due("the eighth is used", value("eighth", fresh(), PUT, 1, PUT, 1, PUT, 1, PUT, 1, PUT, 1, PUT, 1, PUT, 12, PUT, 4,
+            DIV, 0, GIVE, 0), 3);
+        dueFault("give leaves no more", 3, 4, PUT, 1, PUT, 2, GIVE, 0, ADD, 0);
+        dueFault("nor does the cell", 3, 4, PUT, 1, PUT, 2, ADD_CELL, 0, ADD, 0);
         HandlingRules x = fresh();
         x.fact(0, 8);
         x.fact(7, -8);
