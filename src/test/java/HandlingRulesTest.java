@@ -92,11 +92,17 @@ public final class HandlingRulesTest {
         for (Method m : HandlingRules.class.getDeclaredMethods()) {
             if (!Modifier.isPrivate(m.getModifiers()) && !m.isSynthetic()) {
                 seen.add(m.getReturnType() + " " + m.getName() + Arrays.toString(m.getParameterTypes()));
+                due(m.getName() + " is public", Modifier.isPublic(m.getModifiers()), true);
+                Class<?>[] thrown = m.getName().equals("divide") ? new Class<?>[] {ArithmeticException.class}
+                    : m.getName().equals("handle") ? new Class<?>[] {IllegalStateException.class} : new Class<?>[0];
+                due(m.getName() + " throws", Arrays.equals(m.getExceptionTypes(), thrown), true);
             }
         }
         for (Field f : HandlingRules.class.getDeclaredFields()) {
             if (!Modifier.isPrivate(f.getModifiers()) && !f.isSynthetic()) {
                 seen.add(f.getType() + " " + f.getName());
+                int constant = Modifier.PUBLIC | Modifier.STATIC | Modifier.FINAL;
+                due(f.getName() + " is a public constant", f.getModifiers(), constant);
             }
         }
         for (Constructor<?> c : HandlingRules.class.getDeclaredConstructors()) {
